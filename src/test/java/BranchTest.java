@@ -53,6 +53,10 @@ public final class BranchTest {
         CHECKS.due("17: before", x.trust(0, 1, false), true);
         CHECKS.due("17: no more", x.trust(0, 1, false), false);
         CHECKS.due("17: members by others", x.heads(0, 0), 8);
+        CHECKS.due("17: another one", x.trust(0, 2, false), true);
+        CHECKS.due("17: the first one stays as it was", x.trust(0, 1, false), false);
+        CHECKS.due("17: no members", x.heads(0, 0), 0);
+        CHECKS.due("17: the other one again", x.trust(0, 2, true), false);
         CHECKS.due("17: the other peer still does", x.trust(1, 1, true), true);
         CHECKS.due("17: again", x.trust(0, 1, true), false);
         CHECKS.due("17: now", x.trust(0, 1, true), true);

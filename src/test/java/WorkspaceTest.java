@@ -135,8 +135,13 @@ public final class WorkspaceTest {
         x.drop(0, 2);
         CHECKS.due("4: file dropped", x.nodes(0, -1), 3);
         CHECKS.noElement("4: dropped twice", () -> x.drop(0, 2));
+        CHECKS.due("4: another directory", x.add(0, 0, 2, true), 3);
+        x.move(0, 1, 3, 0);
+        CHECKS.badArgument("4: directory with a node of a lower number in it", () -> x.drop(0, 3));
         x.drop(0, 1);
-        CHECKS.due("4: empty directory dropped", x.nodes(0, -1), 1);
+        x.drop(0, 3);
+        CHECKS.due("4: empty directories dropped", x.nodes(0, -1), 1);
+        CHECKS.badArgument("4: the root with nothing in it", () -> x.drop(0, 0));
         CHECKS.badState("4: the tree is that of the base again", () -> x.commit(0));
     }
 
