@@ -524,7 +524,7 @@ public final class MarkedTrees {
         private final long[] marksOfValues = new long[MOST_NODES * SCALARS];
 
         Tree() {
-            values[PLACE] = NONE;
+            values[slot(ROOT, PLACE)] = NONE;
         }
 
         boolean isAlive(int node) {
