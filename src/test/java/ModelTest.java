@@ -39,6 +39,7 @@ public final class ModelTest {
                     test.gatherOrRead();
                 }
             }
+            checks.due(test.run + "every revision has a good tree", test.model.everyTreeIsGood(), true);
             runsToTheLimit += test.revisions == 40 && test.nodes == 16 ? 1 : 0;
         }
         // Runs that seldom come to what is hard would compare little.

@@ -433,4 +433,31 @@ final class PlainModel {
     long has(int peer) {
         return bits(peer(peer).has);
     }
+
+    /** The document's "Each revision has a good tree", which no rule of merges says in so many words. */
+    boolean everyTreeIsGood() {
+        return revisions.stream().allMatch(revision -> isGood(revision.tree));
+    }
+
+    private boolean isGood(Map<Integer, Entry> tree) {
+        Set<Place> places = new HashSet<>();
+        for (int node : tree.keySet()) {
+            if (!places.add((Place) tree.get(node).values[0]) || !comesToTheRoot(tree, node)) {
+                return false;
+            }
+        }
+        return tree.containsKey(0);
+    }
+
+    private boolean comesToTheRoot(Map<Integer, Entry> tree, int node) {
+        Set<Integer> seen = new TreeSet<>();
+        int at = node;
+        while (at != 0 && seen.add(at)) {
+            at = ((Place) tree.get(at).values[0]).parent;
+            if (!tree.containsKey(at) || !isDirectory.get(at)) {
+                return false;
+            }
+        }
+        return at == 0;
+    }
 }
