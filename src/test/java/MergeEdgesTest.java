@@ -83,6 +83,11 @@ public final class MergeEdgesTest {
             "commit 0 = 4; decide 0 6 0 0; decide 0 6 1 1; decide 0 6 2 0; merge 0 3 4 = 5; about 5 6 0 = 3",
             "about 5 6 1 = 6; about 5 6 2 = 7; about 5 6 3 = 0; about 5 6 4 = 2; marks 5 6 0 = {2}; marks 5 6 1 = {3}",
             "marks 5 6 2 = {2}; decide 0 6 1 0; merge 0 4 3 = 6; about 6 6 2 = 7; marks 6 6 1 = {3}");
+        // The last node that there can be, on either side.
+        EDGES.run(Edges.PLANTED, Edges.each(0, 9, "add 0 3 # false"), "write 0 15 1 min; write 0 15 2 max; commit 0 = 2",
+            "open 0 1; write 0 5 1 1; commit 0 = 3; merge 0 2 3 = 4; nodes 0 4 = {0..15}; about 4 15 0 = 3",
+            "about 4 15 1 = 9; about 4 15 2 = min; about 4 15 3 = max; marks 4 15 2 = {2}; merge 0 3 2 = 5",
+            "nodes 0 5 = {0..15}; about 5 15 1 = 9; about 5 15 2 = min; marks 5 15 0 = {2}");
     }
 
     private static void sameValues() {
@@ -220,6 +225,9 @@ public final class MergeEdgesTest {
         // The higher one's place is in conflict: that is no matter of the lower one.
         EDGES.run(Edges.PLANTED, "move 0 5 3 0; commit 0; open 0 1; move 0 5 3 1; move 0 4 3 0; commit 0; merge 0 2 3 = -1",
             "conflict 0 0 0 = 5; conflict 0 0 1 = 0; decide 0 5 0 0; merge 0 2 3 = -1; conflict 0 0 0 = 5; conflict 0 0 1 = 4");
+        // Nor does it take the first place of all.
+        EDGES.run(Edges.PLANTED, "move 0 4 3 0; commit 0; open 0 1; move 0 4 3 1; move 0 5 0 0; commit 0; merge 0 2 3 = -1",
+            "conflict 0 0 0 = 4; conflict 0 0 1 = 0");
         // A place that a merge freed by a burial, and one that both sides took.
         EDGES.run("open 0 0; add 0 0 0 false; commit 0; open 0 0; add 0 0 1 false; add 0 0 2 false; commit 0 = 2",
             "open 0 2; move 0 2 0 0; commit 0 = 3; merge 0 1 3 = -1; bury 0 1 true; merge 0 1 3 = 4; open 0 2; move 0 3 0 0",
